@@ -97,7 +97,7 @@ public final class ParcelLine {
         if (!isSession(s)) {
             throw new IllegalArgumentException("there is no such session");
         }
-        if (!sessions[s].way.open) {
+        if (!sessions[s].way.isOpen) {
             throw new IllegalStateException("the data way is not open");
         }
         sessions[s].clientCloses();
@@ -713,7 +713,7 @@ public final class ParcelLine {
 
     /** A session's data way with the transfer that runs there. */
     private static final class DataWay {
-        private boolean open;
+        private boolean isOpen;
         private int mode;
         private boolean isAscii;
         private boolean isReturnWaiting;
@@ -747,7 +747,7 @@ public final class ParcelLine {
             }
         }
 
-        void sendNames() {
+        void beginNames() {
             mode = SENDING;
         }
 
@@ -810,7 +810,7 @@ public final class ParcelLine {
                 }
                 file.isWritten = false;
             }
-            open = false;
+            isOpen = false;
             mode = IDLE;
             isReturnWaiting = false;
             file = null;
@@ -902,9 +902,11 @@ public final class ParcelLine {
             path.read(reader.line, reader.commandLength + 1, reader.length);
             Command command = recognise();
             answered = refusal(command);
-            if (answered == 0 && command != null) {
+            if (answered == 0 && command != null && command.argument == PATH) {
                 locate();
-                answered = command.argument == PATH ? obeyPath(command) : obeyPlain(command);
+                answered = obeyPath(command);
+            } else if (answered == 0 && command != null) {
+                answered = obeyPlain(command);
             }
             forget(command);
             reader.startLine();
@@ -1041,6 +1043,7 @@ public final class ParcelLine {
             }
         }
 
+        /** Finds what the line's path leads to, and where it could make something new. */
         private void locate() {
             int from = store.currents[me];
             target = store.follow(path, from, path.count);
@@ -1070,7 +1073,7 @@ public final class ParcelLine {
                     store.currents[me] = store.parentOf(store.currents[me]);
                     return 250;
                 case PASV:
-                    way.open = true;
+                    way.isOpen = true;
                     return 227;
                 case REST:
                     offset = reader.argumentNumber();
@@ -1137,10 +1140,10 @@ public final class ParcelLine {
         }
 
         private int sendNames() {
-            if (!way.open) {
+            if (!way.isOpen) {
                 return 425;
             }
-            way.sendNames();
+            way.beginNames();
             for (int n = ROOT + 1; n < NODES; n++) {
                 if (store.nodes[n].isIn(store.currents[me])) {
                     way.loadName(store.nodes[n].name);
@@ -1183,7 +1186,7 @@ public final class ParcelLine {
             if (file.isWritten) {
                 return 450;
             }
-            if (!way.open) {
+            if (!way.isOpen) {
                 return 425;
             }
             if (offset > file.bytes.count) {
@@ -1201,7 +1204,7 @@ public final class ParcelLine {
             if (!isNew && store.nodes[target].isBusy()) {
                 return 450;
             }
-            if (!way.open) {
+            if (!way.isOpen) {
                 return 425;
             }
             if (kept > targetSize()) {
@@ -1299,6 +1302,7 @@ public final class ParcelLine {
             size = 0;
         }
 
+        // Without a job this changes nothing that start() doesn't set again.
         void interrupt() {
             next = LOG_IN;
             if (tries > 0) {
