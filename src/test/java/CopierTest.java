@@ -114,9 +114,9 @@ public final class CopierTest {
         Due.is("an empty file", client.steps(3), "1 2 4");
         Due.is("the shelf", client.onShelf(0), "");
         client.keep(0, "f", 1, 2, 3, 4, 5, 6, 7, 8, 9, 10, 11, 12);
-        client.fill(0, 10, 0, 1);
+        client.fill(0, 11, 0, 1);
         client.job(false, 0, F, 0);
-        Due.is("REST in two digits", client.steps(5), "1 2 2 2 4");
+        Due.is("REST in two digits", client.steps(4), "1 2 2 4");
         Due.is("the last byte", client.shelf(0, 11), 12);
     }
 

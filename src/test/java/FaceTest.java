@@ -2,7 +2,6 @@ import java.lang.reflect.Constructor;
 import java.lang.reflect.Field;
 import java.lang.reflect.Method;
 import java.lang.reflect.Modifier;
-import java.util.HashSet;
 import java.util.Set;
 import java.util.TreeSet;
 
@@ -34,7 +33,9 @@ public final class FaceTest {
         for (Method method : ParcelLine.class.getDeclaredMethods()) {
             int modifiers = method.getModifiers();
             Due.is(method + " is public or private", Modifier.isPublic(modifiers) || Modifier.isPrivate(modifiers), true);
-            if (Modifier.isPublic(modifiers)) {
+            if (Modifier.isPrivate(modifiers)) {
+                Due.is(method + " bears a public name", Set.of(FACE).contains(method.getName()), false);
+            } else {
                 Due.is(method + " is static", Modifier.isStatic(modifiers), false);
                 seen.add(method.getName());
             }
@@ -57,9 +58,8 @@ public final class FaceTest {
     private static void innerClass(Class<?> inner) {
         Due.is(inner + " is static", Modifier.isStatic(inner.getModifiers()), true);
         Due.is(inner + " is public", Modifier.isPublic(inner.getModifiers()), false);
-        Set<String> face = new HashSet<>(Set.of(FACE));
         for (Method method : inner.getDeclaredMethods()) {
-            Due.is(method + " bears a public name", face.contains(method.getName()), false);
+            Due.is(method + " bears a public name", Set.of(FACE).contains(method.getName()), false);
         }
         for (Field field : inner.getDeclaredFields()) {
             if (Modifier.isStatic(field.getModifiers())) {

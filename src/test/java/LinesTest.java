@@ -11,6 +11,8 @@ public final class LinesTest {
         argumentsThatMustNotBe();
         argumentsThatMustBe();
         unknownCommands();
+        smallLetters();
+        argumentEndsWithItsLine();
         Due.end();
     }
 
@@ -136,6 +138,32 @@ public final class LinesTest {
             client.due(0, command, "501;");
             client.due(0, command + " ", "501;");
         }
+    }
+
+    private static void smallLetters() {
+        Client client = new Client();
+        String[] commands = {"type A", "pwd", "cwd a", "cdup", "size a", "pasv", "rest 0", "retr a", "stor a", "appe a",
+            "nlst", "abor", "dele a", "mkd a", "rmd a", "rnfr a", "rnto a"};
+        for (String line : commands) {
+            client.due(0, line, "530;");
+        }
+        client.due(0, "user any", "331;");
+        client.due(0, "pass key", "230;");
+        client.due(0, "quit", "221;");
+    }
+
+    /** What a longer line before has left behind the end of this one is no part of it. */
+    private static void argumentEndsWithItsLine() {
+        Client client = Client.adm();
+        client.due(0, "CWD /", "250;");
+        client.due(0, "CWD ", "501;");
+        client.due(0, "CWD /..", "250;");
+        client.due(0, "CWD /", "250;");
+        client.due(0, "REST 24", "350;");
+        client.due(0, "REST 2", "350;");
+        client.due(0, "REST ", "501;");
+        client.due(0, "TYPE A", "200;");
+        client.due(0, "TYPE ", "501;");
     }
 
     private static void unknownCommands() {

@@ -11,6 +11,8 @@ public final class TransfersTest {
         emptyTransfers();
         names();
         namesAreThoseOfTheAnswer();
+        namesOfAllNodes();
+        namesLeaveFilesAlone();
         abort();
         asciiSent();
         asciiReceived();
@@ -183,6 +185,33 @@ public final class TransfersTest {
         client.due(0, "RNFR a2b", "350;");
         client.due(0, "RNTO q", "250;");
         Due.is("the names", client.takeAll(1), "97 48 98 13 10 97 49 98 13 10 97 50 98 13 10");
+    }
+
+    private static void namesOfAllNodes() {
+        Client client = Client.adm();
+        StringBuilder want = new StringBuilder();
+        for (int i = 0; i < 15; i++) {
+            client.say(0, "MKD xy" + (char) ('a' + i));
+            want.append("120 121 ").append(97 + i).append(" 13 10 ");
+        }
+        client.say(0, "PASV");
+        client.say(0, "NLST");
+        Due.is("the names", client.takeAll(0), want.toString().trim());
+    }
+
+    private static void namesLeaveFilesAlone() {
+        Client client = Client.adm();
+        client.logIn(1, "any");
+        client.keep(0, "f", 1, 2);
+        client.begin(0, "RETR f");
+        client.due(0, "ABOR", "426;226;");
+        client.begin(0, "NLST");
+        client.due(0, "ABOR", "426;226;");
+        client.begin(1, "RETR f");
+        client.due(0, "DELE f", "450;");
+        client.due(1, "ABOR", "426;226;");
+        client.begin(1, "NLST");
+        client.due(0, "DELE f", "250;");
     }
 
     private static void abort() {
