@@ -86,6 +86,14 @@ final class Client {
         Due.is("session " + s + ": " + line, ask(s, line), want);
     }
 
+    /** What some lines are answered together. */
+    String talk(int s, String... lines) {
+        for (String line : lines) {
+            say(s, line);
+        }
+        return hear(s);
+    }
+
     void logIn(int s, String user) {
         due(s, "USER " + user, "331;");
         due(s, "PASS key", "230;");
@@ -136,6 +144,26 @@ final class Client {
             held.append(shelf(k, i)).append(' ');
         }
         return held.toString().trim();
+    }
+
+    /** All that can be seen without a change. */
+    String look() {
+        StringBuilder seen = new StringBuilder();
+        for (int n = 0; n < 16; n++) {
+            int isFile = node(n, 1);
+            if (isFile != ParcelLine.NONE) {
+                seen.append(n).append(isFile == 1 ? " file " : " directory ").append(node(n, 0)).append(' ');
+                seen.append(node(n, 3)).append(": ").append(isFile == 1 ? contents(n) : "" + node(n, 2)).append('\n');
+            }
+        }
+        for (int k = 0; k < 3; k++) {
+            seen.append("shelf ").append(onShelf(k)).append('\n');
+        }
+        for (int s = 0; s < 2; s++) {
+            seen.append("session ").append(current(s)).append(' ').append(running(s)).append(' ').append(waiting(s));
+            seen.append('\n');
+        }
+        return seen.toString();
     }
 
     String close(int s) {
