@@ -4,6 +4,7 @@ public final class CallEdgesTest {
     private static final int F = Client.name("f");
 
     public static void main(String[] args) {
+        newObject();
         sessions();
         closeOfAnOpenWay();
         bringWhereOneReceives();
@@ -14,6 +15,7 @@ public final class CallEdgesTest {
         nodeWhat();
         nodeNames();
         contentPlaces();
+        waitings();
         currents();
         runnings();
         fillCounts();
@@ -26,9 +28,32 @@ public final class CallEdgesTest {
         jobTries();
         jobArgumentsBeforeState();
         jobCutsSessionOne();
+        stepAnswers();
         stepWithoutJob();
         stepClearsReplies();
         Due.end();
+    }
+
+    private static void newObject() {
+        Due.sentence("An empty store, nobody logged in, empty shelves, no job.");
+        Client client = new Client();
+        for (int n = 0; n < 16; n++) {
+            Due.is("node " + n, client.node(n, 2), n == 0 ? 0 : -1);
+        }
+        for (int s = 0; s < 2; s++) {
+            Due.is("nobody", client.current(s), -1);
+            Due.is("no reply bytes", client.waiting(s), 0);
+            Due.is("no data way", client.close(s), Client.STATE);
+            Due.is("no USER before", client.ask(s, "PASS key"), "503;");
+        }
+        for (int k = 0; k < 3; k++) {
+            Due.is("shelf " + k, client.shelf(k, -1), 0);
+        }
+        Due.is("no job", client.step(), Client.STATE);
+        Due.is("NONE", ParcelLine.NONE, -1);
+        client.logIn(0, "adm");
+        client.due(0, "MKD a", "257 /a;");
+        Due.is("another object", new Client().node(1, 1), -1);
     }
 
     private static void sessions() {
@@ -186,6 +211,21 @@ public final class CallEdgesTest {
         client.begin(0, "STOR f", 9);
         Due.is("a byte that is gone", client.content(2, 1), -1);
         Due.is("the one that came", client.content(2, 0), 9);
+    }
+
+    private static void waitings() {
+        Due.sentence("How many reply bytes wait in session s; NONE if there is no such session.");
+        Client client = new Client();
+        Due.is("none", client.waiting(0), 0);
+        client.say(0, "NOOP");
+        Due.is("of one reply", client.waiting(0), 5);
+        Due.is("of the other session", client.waiting(1), 0);
+        client.reply(0);
+        Due.is("one was taken", client.waiting(0), 4);
+        client.reply(1);
+        Due.is("one of the other session", client.waiting(0), 4);
+        Due.is("no such session", client.waiting(-1), -1);
+        Due.is("no such session", client.waiting(2), -1);
     }
 
     private static void currents() {
@@ -400,6 +440,20 @@ public final class CallEdgesTest {
         Due.is("its lines", client.hear(1), "331;230;200;227;");
         Due.is("another job", client.job(true, 0, F, 0), Client.STATE);
         Due.is("cuts nothing", client.current(1), 0);
+    }
+
+    private static void stepAnswers() {
+        Due.sentence("(with these two no job is on any more; 5 also where no try was left)");
+        Client client = new Client();
+        client.job(true, 1, F, 0);
+        Due.is("4 and no job", client.steps(5), "1 2 3 4 " + Client.STATE);
+        client.job(false, 1, Client.name("g"), 0);
+        Due.is("5 and no job", client.steps(3), "1 5 " + Client.STATE);
+        client.job(false, 1, F, 0);
+        client.cut(1);
+        Due.is("no try", client.steps(2), "5 " + Client.STATE);
+        client.job(false, 1, F, 0);
+        Due.is("a job again", client.steps(4), "1 2 4 " + Client.STATE);
     }
 
     private static void stepWithoutJob() {

@@ -8,6 +8,7 @@ public final class CopierEdgesTest {
         logInLines();
         fetchOfNoFile();
         fetchWithMoreOnTheShelf();
+        fetchFromEachPlace();
         fetchRefused();
         fetchTakesAByte();
         fetchOfAnotherTransfer();
@@ -15,6 +16,7 @@ public final class CopierEdgesTest {
         fetchEnds();
         bringWithoutTmp();
         bringWithTmp();
+        bringToEachPlace();
         bringWithBusyTmp();
         bringRefused();
         bringWhenNoneReceives();
@@ -25,6 +27,7 @@ public final class CopierEdgesTest {
         putInPlaceFails();
         putInPlaceInATransfer();
         stepsLeadOn();
+        sessionBehindAJob();
         triesFromZeroToNine();
         cutAtEachStep();
         lostWhateverComes();
@@ -157,6 +160,27 @@ public final class CopierEdgesTest {
         Due.is("it is emptied", client.shelf(0, -1), 0);
     }
 
+    private static void fetchFromEachPlace() {
+        Due.sentence("then REST with the shelf's number of bytes, RETR /name.");
+        int[] bytes = new int[24];
+        for (int i = 0; i < 24; i++) {
+            bytes[i] = i + 100;
+        }
+        for (int count = 0; count < 24; count++) {
+            Client client = Client.adm();
+            client.keep(0, "f", bytes);
+            client.fill(0, count, 7, 0);
+            client.job(false, 0, F, 0);
+            Due.is("steps", client.steps(3), "1 2 2");
+            Due.is("the byte at " + count, client.shelf(0, count), count + 100);
+            StringBuilder rest = new StringBuilder();
+            for (int i = count + 1; i < 24; i++) {
+                rest.append(i + 100).append(' ');
+            }
+            Due.is("those behind it", client.takeAll(1), rest.toString().trim());
+        }
+    }
+
     private static void fetchRefused() {
         Due.sentence("Without 150 for RETR or STOR the job FAILED.");
         Client client = withFile();
@@ -251,6 +275,13 @@ public final class CopierEdgesTest {
         Due.is("its lines", client.hear(1), "550;350;150;");
         Due.is("a new file", client.node(1, 3), Client.name("tmp"));
         Due.is("in the root", client.node(1, 0), 0);
+        client = withFile();
+        client.logIn(1, "adm");
+        client.due(1, "SIZE f", "213 3;");
+        client.fill(0, 5, 1, 1);
+        client.job(true, 0, Client.name("g"), 0);
+        Due.is("no 213 of before", client.steps(3), "1 2 2");
+        Due.is("the first byte", client.contents(2), "1");
         client = bringing(2, 0);
         client.logIn(0, "adm");
         client.due(0, "MKD tmp", "257 /tmp;");
@@ -280,6 +311,20 @@ public final class CopierEdgesTest {
         client.keep(0, "tmp");
         client.job(true, 0, F, 0);
         Due.is("an empty tmp and an empty shelf", client.steps(4), "1 2 3 4");
+    }
+
+    private static void bringToEachPlace() {
+        Due.sentence("REST with that, STOR /tmp.");
+        for (int count = 0; count <= 24; count++) {
+            Client client = Client.adm();
+            client.keep(0, "tmp", new int[count]);
+            client.fill(0, 24, 1, 1);
+            client.job(true, 0, F, 0);
+            Due.is("steps", client.steps(2), "1 2");
+            Due.is("what stays of " + count, client.node(1, 2), count);
+            Due.is("step", client.step(), count < 24 ? "2" : "3");
+            Due.is("the byte at " + count, client.content(1, count), count < 24 ? count + 1 : -1);
+        }
     }
 
     private static void bringWithBusyTmp() {
@@ -335,6 +380,13 @@ public final class CopierEdgesTest {
         client.say(1, "NLST");
         Due.is("one sends", client.running(1), 1);
         Due.is("it receives nothing", client.step(), "5");
+        client = bringing(2, 9);
+        Due.is("steps", client.steps(3), "1 2 2");
+        client.say(1, "ABOR");
+        client.say(1, "PASV");
+        client.say(1, "RETR tmp");
+        Due.is("one sends the file itself", client.step(), "5");
+        Due.is("tmp stays", client.contents(1), "1");
         client = bringing(0, 9);
         Due.is("steps", client.steps(2), "1 2");
         client.say(1, "ABOR");
@@ -467,6 +519,17 @@ public final class CopierEdgesTest {
         Due.is("then it fails", client.step(), "5");
     }
 
+    private static void sessionBehindAJob() {
+        Due.sentence("It does all by session 1,");
+        Client client = fetching(0);
+        Due.is("DONE", client.steps(6), "1 2 2 2 2 4");
+        Due.is("adm is still logged in", client.talk(1, "PWD", "MKD a"), "257 /;257 /a;");
+        client.job(true, 1, Client.name("a"), 0);
+        Due.is("FAILED", client.steps(4), "1 2 3 5");
+        Due.is("adm is still logged in", client.current(1), 0);
+        Due.is("session 0 goes on", client.talk(0, "PWD"), "257 /;");
+    }
+
     private static void triesFromZeroToNine() {
         Due.sentence("the next step is 0, with one try less, or, if none was left, the job is FAILED at its next step,");
         for (int tries = 0; tries <= 9; tries++) {
@@ -528,10 +591,19 @@ public final class CopierEdgesTest {
         Due.is("the shelf", client.onShelf(0), "");
         Due.is("it is on no more", client.step(), Client.STATE);
         Due.is("a job", client.job(false, 0, F, 0), Client.FINE);
-        client.crash();
+        for (int more = 0; more < 4; more++) {
+            for (int i = 0; i <= more; i++) {
+                client.cut(1);
+                client.crash();
+            }
+            Due.is("FAILED", client.steps(2), "5 " + Client.STATE);
+            Due.is("a job", client.job(false, 0, F, more), Client.FINE);
+        }
+        client = fetching(0);
+        client.cut(1);
         client.cut(1);
         client.crash();
-        Due.is("FAILED", client.steps(2), "5 " + Client.STATE);
+        Due.is("FAILED", client.step(), "5");
     }
 
     private static void whatCostsNoTry() {

@@ -191,7 +191,7 @@ public final class NodeCommandEdgesTest {
     }
 
     private static void renameInOrder() {
-        Due.sentence("550 no node of that number is there any more, or nothing new can be made there, or it would be in itself; 450");
+        Due.sentence("or nothing new can be made there, or it would be in itself; 450 it is being written or read;");
         Client client = tree();
         client.logIn(1, "adm");
         client.begin(1, "RETR f");

@@ -3,6 +3,7 @@ public final class ReplyEdgesTest {
     public static void main(String[] args) {
         sizes();
         paths();
+        longestPath();
         noTextBehindOthers();
         exactlyTwoHundred();
         oneTooMany();
@@ -37,6 +38,29 @@ public final class ReplyEdgesTest {
             "257 /a;250;257 /a;257 /a/0z;250;257 /a/0z;257 /a/0z/abc;250;257 /a/0z/abc;");
         client.due(0, "CWD /", "250;");
         client.due(0, "PWD", "257 /;");
+    }
+
+    /** Fifteen names of three characters: no other reply is as long. */
+    private static void longestPath() {
+        Due.sentence("257 and the path of CURRENT (/ , or / and a name for each step).");
+        Client client = new Client();
+        client.say(0, "USER adm");
+        client.say(0, "PASS key");
+        for (int i = 0; i < 14; i++) {
+            client.say(0, "MKD xyz");
+            client.say(0, "CWD xyz");
+        }
+        while (client.waiting(0) > 140) {
+            client.reply(0);
+        }
+        client.say(0, "MKD xyz");
+        Due.is("66 bytes have no room in 60", client.waiting(0), 140);
+        drop(client, 0, 6);
+        client.say(0, "CWD xyz");
+        Due.is("CURRENT", client.current(0), 15);
+        drop(client, 0, 5);
+        client.say(0, "PWD");
+        Due.is("66 bytes in 66", client.waiting(0), 200);
     }
 
     private static void noTextBehindOthers() {
@@ -218,6 +242,8 @@ public final class ReplyEdgesTest {
         Due.is("all were left out", client.waiting(0), 200);
         client.say(0, "QUIT");
         Due.is("logged out", client.current(0), -1);
+        client.crash();
+        Due.is("safe", client.contents(2), "5 6 7 8 9");
     }
 
     private static void roomOfEachSession() {

@@ -137,7 +137,7 @@ public final class TransferEdgesTest {
     }
 
     private static void storeInOrder() {
-        Due.sentence("550 it leads to a directory, or to nothing and nothing new can be made there; 450 it is being written or read;");
+        Due.sentence("STOR path: 550 it leads to a directory, or to nothing and nothing new can be made there;");
         Client client = withFile();
         client.logIn(1, "adm");
         client.due(0, "MKD a", "257 /a;");
@@ -188,7 +188,7 @@ public final class TransferEdgesTest {
     }
 
     private static void storeOfANewFile() {
-        Due.sentence("554 the offset is above the number of bytes (0 for a new one); 552 it is new and no node is free; else 150:");
+        Due.sentence("(0 for a new one); 552 it is new and no node is free; else 150:");
         Client client = Client.adm();
         Due.is("lines", client.talk(0, "PASV", "REST 1", "STOR f"), "227;350;554;");
         Due.is("nothing was made", client.node(1, 1), -1);
@@ -262,6 +262,10 @@ public final class TransferEdgesTest {
         Due.is("lines", client.talk(0, "TYPE I", "PASV", "NLST"), "226;200;227;150;");
         Due.is("in TYPE I", client.takeAll(0), "122 122 13 10 98 13 10 120 13 10 97 49 50 13 10");
         Due.is("nothing in b any more", client.talk(0, "CWD b", "PASV", "NLST"), "226;250;227;150;226;");
+        client.due(0, "TYPE A", "200;");
+        client.keep(0, "f", 13, 10);
+        client.begin(0, "NLST");
+        Due.is("behind a file in TYPE A", client.takeAll(0), "102 13 10");
     }
 
     private static void whatIsSent() {
