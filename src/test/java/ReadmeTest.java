@@ -7,7 +7,6 @@ import java.net.URLClassLoader;
 import java.nio.file.Files;
 import java.nio.file.Path;
 import java.util.List;
-import javax.tools.ToolProvider;
 
 /** README.md's example is a program that does what its comments say. */
 public final class ReadmeTest {
@@ -32,12 +31,13 @@ public final class ReadmeTest {
         return text.substring(begin, text.indexOf(FENCE, begin));
     }
 
-    private static boolean compile(Path out, String example) throws IOException {
+    private static boolean compile(Path out, String example) throws IOException, InterruptedException {
         String shown = "System.out.print(next); for (int k = 0; k < 5; k++) System.out.print(\" \" + parcel.content(1, k));";
         Path file = out.resolve("Example.java");
         Files.writeString(file, "public class Example { public static void main(String[] args) {" + example + shown + "} }");
-        return ToolProvider.getSystemJavaCompiler().run(null, null, null,
-            "-cp", System.getProperty("java.class.path"), "-d", out.toString(), file.toString()) == 0;
+        String classes = System.getProperty("java.class.path");
+        Process javac = new ProcessBuilder("javac", "-cp", classes, "-d", out.toString(), file.toString()).inheritIO().start();
+        return javac.waitFor() == 0;
     }
 
     private static String run(Path out) throws IOException, ReflectiveOperationException {
